@@ -13,6 +13,8 @@ public final class CranePlan {
     private static final int MOST_STEP = 20;
     // 8 bays can be shared out in order among 4 cranes in 11 over 3 ways.
     private static final int MOST_SHARINGS = 165;
+    // Above every time and every number of steps.
+    private static final int BEYOND = 1000000;
 
     private final Bays bays;
     private final Cranes cranes;
@@ -282,7 +284,7 @@ public final class CranePlan {
         }
 
         private int leastTime(int work) {
-            int least = Integer.MAX_VALUE;
+            int least = BEYOND;
             for (int crane = 0; crane < total; crane++) {
                 if (!isOut(crane)) {
                     least = Math.min(least, timeFor(crane, work));
@@ -376,10 +378,6 @@ public final class CranePlan {
             }
         }
 
-        private boolean isBetterThan(int otherFinish, int otherSteps) {
-            return finish != otherFinish ? finish < otherFinish : steps < otherSteps;
-        }
-
         private void setTimesOf(int crane, int next) {
             int time = 0;
             for (int bay = Math.max(0, first[crane]); bay <= last[crane] && bay < MOST_BAYS; bay++) {
@@ -399,6 +397,10 @@ public final class CranePlan {
                 return 0;
             }
             return came[crane][bay];
+        }
+
+        private boolean isBetterThan(int otherFinish, int otherSteps) {
+            return finish != otherFinish ? finish < otherFinish : steps < otherSteps;
         }
 
         // No crane begins twice at one time, so time and crane tell any two rows apart.
@@ -498,8 +500,8 @@ public final class CranePlan {
             if (ableCranes == 0) {
                 return false;
             }
-            int leastFinish = Integer.MAX_VALUE;
-            int fewestSteps = Integer.MAX_VALUE;
+            int leastFinish = BEYOND;
+            int fewestSteps = BEYOND;
             boolean more = true;
             for (int tried = 0; more && tried < MOST_SHARINGS; tried++) {
                 share(choice);
