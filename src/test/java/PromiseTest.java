@@ -1,13 +1,5 @@
 /** Each promise of the document by hand: ordinary inputs, the edges, and wrong inputs. */
-public final class PromiseTest {
-    private static final Class<?> INDEX = IndexOutOfBoundsException.class;
-    private static final Class<?> ARGUMENT = IllegalArgumentException.class;
-    private static final Class<?> STATE = IllegalStateException.class;
-    private static final Class<?> ARITHMETIC = ArithmeticException.class;
-
-    private static final Check check = new Check();
-    private static CranePlan x;
-
+public final class PromiseTest extends Calls {
     public static void main(String[] args) {
         aNewObject();
         heldGap();
@@ -31,75 +23,6 @@ public final class PromiseTest {
         look();
         count();
         check.end();
-    }
-
-    private static void make(int cranes, int gap, int... works) {
-        x = new CranePlan(cranes, gap);
-        for (int work : works) {
-            x.bay(0, work);
-        }
-    }
-
-    private static void dueBay(Object want, int hatch, int work) {
-        check.due(want, "bay(" + hatch + ", " + work + ")", () -> x.bay(hatch, work));
-    }
-
-    private static void dueRate(Object want, int crane, int moves, int minutes) {
-        check.due(want, "rate(" + crane + ", " + moves + ", " + minutes + ")", () -> x.rate(crane, moves, minutes));
-    }
-
-    private static void dueStep(Object want, int minutes) {
-        check.due(want, "step(" + minutes + ")", () -> x.step(minutes));
-    }
-
-    private static void duePlan(Object want) {
-        check.due(want, "plan()", () -> x.plan());
-    }
-
-    private static void dueWorks(Object want, int crane, int time) {
-        check.due(want, "works(" + crane + ", " + time + ")", () -> x.works(crane, time));
-    }
-
-    private static void dueWhere(Object want, int crane, int time) {
-        check.due(want, "where(" + crane + ", " + time + ")", () -> x.where(crane, time));
-    }
-
-    private static void dueFails(Object want, int crane, int time) {
-        check.due(want, "fails(" + crane + ", " + time + ")", () -> x.fails(crane, time));
-    }
-
-    private static void dueBound(Object want) {
-        check.due(want, "bound()", () -> x.bound());
-    }
-
-    private static void dueRow(Object want, int i, int what) {
-        check.due(want, "row(" + i + ", " + what + ")", () -> x.row(i, what));
-    }
-
-    private static void dueLook(Object want, int bay, int what) {
-        check.due(want, "look(" + bay + ", " + what + ")", () -> x.look(bay, what));
-    }
-
-    private static void dueCount(Object want, int what) {
-        check.due(want, "count(" + what + ")", () -> x.count(what));
-    }
-
-    private static void dueWholeRow(int i, int time, int crane, int bay, int end) {
-        dueRow(time, i, 0);
-        dueRow(crane, i, 1);
-        dueRow(bay, i, 2);
-        dueRow(end, i, 3);
-    }
-
-    private static void dueCranes(int... cranes) {
-        for (int bay = 0; bay < cranes.length; bay++) {
-            dueLook(cranes[bay], bay, 2);
-        }
-    }
-
-    private static void dueLeft(int bay, int hatch, int work) {
-        dueLook(hatch, bay, 0);
-        dueLook(work, bay, 1);
     }
 
     private static void aNewObject() {
